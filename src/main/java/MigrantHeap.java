@@ -1021,7 +1021,7 @@ public final class MigrantHeap {
         boolean isRight() {
             int high = 0;
             for (int i = 0; i < size; i++) {
-                int taken = taken(words[i]);
+                int taken = takenBy(words[i]);
                 if (high < taken) {
                     return false;
                 }
@@ -1030,7 +1030,7 @@ public final class MigrantHeap {
             return high == 1;
         }
 
-        private static int taken(int w) {
+        private static int takenBy(int w) {
             if (w == NEGATE) {
                 return 1;
             }
@@ -1103,17 +1103,17 @@ public final class MigrantHeap {
             if (operator == DIVIDE && lows[y] <= 0 && highs[y] >= 0) {
                 return false;
             }
-            long least = Long.MAX_VALUE;
-            long greatest = Long.MIN_VALUE;
+            long least = 0;
+            long greatest = 0;
             for (int pair = 0; pair < 4; pair++) {
                 long left = (pair & 1) == 0 ? lows[x] : highs[x];
                 long right = (pair & 2) == 0 ? lows[y] : highs[y];
                 if (operator == TIMES && isTooFar(left, right)) {
                     return false;
                 }
-                long result = result(operator, left, right);
-                least = Math.min(least, result);
-                greatest = Math.max(greatest, result);
+                long end = apply(operator, left, right);
+                least = pair == 0 ? end : Math.min(least, end);
+                greatest = pair == 0 ? end : Math.max(greatest, end);
             }
             return lay(least, greatest);
         }
@@ -1123,7 +1123,7 @@ public final class MigrantHeap {
             return right != 0 && Math.abs(left) > FARTHEST_RESULT / Math.abs(right);
         }
 
-        private static long result(int operator, long left, long right) {
+        private static long apply(int operator, long left, long right) {
             switch (operator) {
                 case PLUS:
                     return left + right;

@@ -25,6 +25,7 @@ public final class RecordsTest {
         promise16Sweep();
         promise17Collect();
         promise17CollectByNewestVersion();
+        promise17CollectRing();
         Expect.end();
     }
 
@@ -366,5 +367,28 @@ public final class RecordsTest {
         Expect.equal("collect touches nothing", x.versionOf(0), 1);
         Expect.equal("a dropped reference leads nowhere", x.collect(), 1);
         Expect.equal("collect touches nothing", x.versionOf(0), 1);
+    }
+
+    private static void promise17CollectRing() {
+        MigrantHeap x = Expect.heap(1);
+        x.step(REFERENCE, 0, 0, 0, 0);
+        x.step(REFERENCE, 1, 0, 0, 0);
+        x.change(0);
+        x.make(0, 0);
+        x.make(0, 1);
+        x.link(0, 0, 1);
+        x.link(0, 1, 0);
+        for (int i = 0; i < 22; i++) {
+            x.link(1, 1, 0);
+            x.make(0, 2);
+            x.link(1, 0, 2);
+            x.follow(1, 0, 1);
+        }
+        x.drop(1);
+        x.drop(2);
+        Expect.equal("24 records in rings and a chain, by one root", x.collect(), 0);
+        Expect.state("make then", () -> x.make(0, 1));
+        x.link(0, 0, 7);
+        Expect.equal("all but the first", x.collect(), 23);
     }
 }

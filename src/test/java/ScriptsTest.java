@@ -161,6 +161,9 @@ public final class ScriptsTest {
         Expect.equal("takeBack makes room", x.takeBack(0), 0);
         Expect.refused("a wrong step then", x, 0, 0);
         Expect.equal("version 9 again", Expect.change(x, 0, DROP, 7), 9);
+        x.newClass();
+        x.step(DROP, 0, 0, 0, 0);
+        Expect.refused("another class", x, 1, 0);
         x.step(REFERENCE, 0, 0, 0, 0);
         Expect.refused("the eleventh version again", x, 0, -1);
     }
@@ -442,6 +445,9 @@ public final class ScriptsTest {
 
     private static void stepJoinRefused() {
         MigrantHeap x = splitting();
+        x.step(SPLIT, 5, 1, 5, 0);
+        x.step(JOIN, 5, 0, 0, 0);
+        Expect.refused("no old field, without records", x, 0, 1);
         x.make(0, 0);
         x.make(0, 1);
         x.step(SPLIT, 5, 1, 5, 0);
