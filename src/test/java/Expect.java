@@ -1,9 +1,20 @@
+import java.util.function.Consumer;
+import java.util.function.Supplier;
+
 /** What the tests of the project share: counting what is not as due, and short ways to build scripts. */
 final class Expect {
     private static int asked = 0;
     private static int wrong = 0;
+    private static int sentences = 0;
+    private static String sentence = "";
 
     private Expect() {
+    }
+
+    /** The words of the document that are tested from here on; they are told with each fault. */
+    static void sentence(String words) {
+        sentences++;
+        sentence = "\"" + words + "\": ";
     }
 
     static void equal(String what, long got, long due) {
@@ -52,11 +63,34 @@ final class Expect {
 
     static void tell(String fault) {
         wrong++;
-        System.out.println(fault);
+        System.out.println(sentence + fault);
+    }
+
+    /**
+     * A call that must throw and leave no trace: a heap on which it was tried and another one on which
+     * it was not answer the same from then on.
+     */
+    static void changesNothing(String what, Class<?> due, Supplier<MigrantHeap> build, Consumer<MigrantHeap> call) {
+        MigrantHeap tried = build.get();
+        throwing(what, due, () -> call.accept(tried));
+        alike(what + " changes nothing", tried, build.get());
+    }
+
+    /** Both are looked at in all ways, and are of no use then. */
+    static void alike(String what, MigrantHeap got, MigrantHeap due) {
+        asked++;
+        String[] seen = Look.at(got).split(" ");
+        String[] looked = Look.at(due).split(" ");
+        int at = java.util.Arrays.mismatch(seen, looked);
+        if (at >= 0) {
+            tell(what + ", but look " + at + " is " + (at < seen.length ? seen[at] : "not there")
+                    + ", due is " + (at < looked.length ? looked[at] : "none"));
+        }
     }
 
     static void end() {
-        System.out.println(asked + " answers, " + wrong + " not as due");
+        String held = sentences == 0 ? "" : sentences + " sentences, ";
+        System.out.println(held + asked + " answers, " + wrong + " not as due");
         if (wrong != 0) {
             System.exit(1);
         }
@@ -81,6 +115,15 @@ final class Expect {
     static void number(MigrantHeap x, int name, int low, int high, int... words) {
         words(x, words);
         x.step(2, name, low, high, 0);
+    }
+
+    /** Gives a class numbers of these names, all from low to high, by one change. */
+    static void addNumbers(MigrantHeap x, int c, int low, int high, int... names) {
+        for (int name : names) {
+            words(x, 200 + Math.max(low, Math.min(high, 0)));
+            x.step(2, name, low, high, 0);
+        }
+        x.change(c);
     }
 
     /** Gives a class one more number, with a literal as its value. */
