@@ -47,6 +47,7 @@ public final class CallsEdgesTest {
         promise12NoneWaits();
         promise12TenVersions();
         promise13AsTheyWere();
+        promise13SixFields();
         promise13ARecordThatIsThereNoMore();
         promise13KeptAsTheOneBefore();
         promise13Once();
@@ -60,6 +61,7 @@ public final class CallsEdgesTest {
         promise15HowManyVersionsLater();
         promise16NotKeptAsTheNewest();
         promise17NoRootLeads();
+        promise17AllReferToAll();
         promise17ByTheNewestVersion();
         promise18About();
         promise18NoneOfThese();
@@ -705,6 +707,34 @@ public final class CallsEdgesTest {
         Expect.equal("the word too", y.word(200), 2);
     }
 
+    private static void promise13SixFields() {
+        Expect.sentence("all records have their fields as they were then");
+        MigrantHeap x = Expect.heap(1);
+        x.make(0, 0);
+        for (int i = 0; i < 6; i++) {
+            Expect.number(x, i, 0, 9, 201 + i);
+        }
+        x.change(0);
+        for (int i = 0; i < 6; i++) {
+            x.step(DROP, i, 0, 0, 0);
+        }
+        x.change(0);
+        Expect.equal("none", x.about(0, 3), 0);
+        x.takeBack(0);
+        Expect.equal("six that went", x.about(0, 3), 6);
+        for (int i = 0; i < 6; i++) {
+            Expect.equal("the number " + i, x.get(0, i), 1 + i);
+        }
+        MigrantHeap y = Expect.heap(1);
+        y.make(0, 0);
+        for (int i = 0; i < 6; i++) {
+            y.step(REFERENCE, i, 0, 0, 0);
+        }
+        y.change(0);
+        y.takeBack(0);
+        Expect.equal("none where six came", y.about(0, 3), 0);
+    }
+
     private static void promise13ARecordThatIsThereNoMore() {
         Expect.sentence("(a reference to a record that is there no more refers to nothing)");
         MigrantHeap x = Expect.heap(2);
@@ -1044,6 +1074,34 @@ public final class CallsEdgesTest {
         Expect.equal("all behind the first", x.collect(), 22);
         x.drop(0);
         Expect.equal("a ring of one, and what it leads to", x.collect(), 2);
+    }
+
+    private static void promise17AllReferToAll() {
+        Expect.sentence("All records to which no root leads .. are there no more");
+        MigrantHeap x = Expect.heap(1);
+        for (int i = 0; i < 6; i++) {
+            x.step(REFERENCE, i, 0, 0, 0);
+        }
+        x.change(0);
+        x.make(0, 0);
+        for (int i = 1; i < 24; i++) {
+            x.make(0, 1);
+            for (int name = 0; name < 4; name++) {
+                x.link(0, name, 1);
+                x.link(1, name, 0);
+            }
+            x.link(1, 4, 1);
+            x.follow(0, 5, 2);
+            x.link(1, 5, 2);
+            x.link(0, 5, 1);
+        }
+        for (int root = 1; root < 8; root++) {
+            x.drop(root);
+        }
+        Expect.equal("24 in rings, by one root", x.collect(), 0);
+        Expect.equal("they are there", x.about(0, 1), 24);
+        x.drop(0);
+        Expect.equal("24 in rings, by none", x.collect(), 24);
     }
 
     private static void promise17ByTheNewestVersion() {

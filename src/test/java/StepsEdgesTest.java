@@ -899,6 +899,21 @@ public final class StepsEdgesTest {
         Expect.equal("four others and two", x.change(0), 3);
         names(x, 0, 1, 6, 7, 8, 2, 0);
         Expect.equal("the last one", x.get(0, 0), 3);
+        MigrantHeap y = numbers(0, 1, 2, 3, 4, 5);
+        Expect.addNumbers(y, 1, -9, 9, 5, 4, 3, 2, 1, 0);
+        y.make(0, 0);
+        for (int name = 0; name < 6; name++) {
+            y.set(0, name, 3 + name);
+        }
+        Expect.change(y, 0, SPLIT, 9, 1, 63);
+        step(y, REFERENCE, 8, 0);
+        step(y, JOIN, 9);
+        refused("one other and six", y, 1);
+        Expect.equal("no other and six", Expect.change(y, 0, JOIN, 9), 3);
+        names(y, 0, 5, 4, 3, 2, 1, 0);
+        for (int name = 0; name < 6; name++) {
+            Expect.equal("the number " + name, y.get(0, name), 3 + name);
+        }
     }
 
     private static void joinHeldByNoRoot() {
