@@ -708,7 +708,8 @@ public final class MigrantHeap {
                 draft.squeeze(entry.values, 1 << step.a);
                 break;
             case NUMBER:
-                entry.put(draft.size, formulaValue(step, entry));
+                pile.reckon(step.formula, kinds[entry.kind].shapeBefore, entry.before);
+                entry.put(draft.size, pile.value());
                 break;
             case RANGE:
                 if (place != NONE) {
@@ -729,11 +730,6 @@ public final class MigrantHeap {
             default:
                 break;
         }
-    }
-
-    private int formulaValue(Step step, Entry entry) {
-        boolean reckoned = pile.reckon(step.formula, kinds[entry.kind].shapeBefore, entry.before);
-        return reckoned ? (int) pile.lows[0] : step.b;
     }
 
     private void splitOff(Step step, Entry entry) {
@@ -1047,22 +1043,23 @@ public final class MigrantHeap {
         /** By ranges if there is no row of values. Whether it neither trapped nor named what is no number. */
         boolean reckon(Formula formula, Shape shape, int[] row) {
             size = 0;
-            for (int i = 0; i < formula.size; i++) {
-                if (!obey(formula.words[i], shape, row)) {
-                    return false;
+            boolean goesOn = true;
+            for (int i = 0; i < formula.size && goesOn; i++) {
+                int w = formula.words[i];
+                if (w < NAMES) {
+                    goesOn = layField(shape, shape.placeOf(w), row);
+                } else if (w >= FIRST_LITERAL) {
+                    goesOn = lay(w - LITERAL_ZERO, w - LITERAL_ZERO);
+                } else {
+                    goesOn = w == NEGATE ? negate() : combine(w);
                 }
             }
-            return size == 1;
+            return goesOn && size == 1;
         }
 
-        private boolean obey(int w, Shape shape, int[] row) {
-            if (w < NAMES) {
-                return layField(shape, shape.placeOf(w), row);
-            }
-            if (w >= FIRST_LITERAL) {
-                return lay(w - LITERAL_ZERO, w - LITERAL_ZERO);
-            }
-            return w == NEGATE ? negate() : combine(w);
+        /** What a formula came to by values. Its range lies within that of a field, so it is an int. */
+        int value() {
+            return (int) lows[0];
         }
 
         private boolean layField(Shape shape, int place, int[] row) {
